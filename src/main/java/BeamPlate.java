@@ -87,9 +87,9 @@ public final class BeamPlate {
             done = reader.read(tape);
             faultKind = reader.fault;
             faultPlace = reader.faultPlace;
-        }
-        if (done) {
-            program.copyFrom(reader.program);
+            if (done) {
+                program.copyFrom(reader.program);
+            }
         }
         tape.size = 0;
         return done;
@@ -366,7 +366,7 @@ public final class BeamPlate {
             places.size = 0;
             values.size = 0;
             int place = 0;
-            while (place < text.size) {
+            for (int i = 0; i < MOST_TAPE && place < text.size; i++) {
                 int sign = text.items[place];
                 if (isLetter(sign)) {
                     place = takeWord(text, place);
