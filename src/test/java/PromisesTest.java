@@ -77,6 +77,27 @@ public final class PromisesTest {
         due("1 led at first", p.cell(1, 0, 0), 10);
         Bench.run(p, "hold 1;");
         due("1 melt and gas at first", p.cell(0, 0, 1), 1);
+        for (int k = 0; k < 4; k++) {
+            // 2 of 101 or 102 are lost, 1 of 60 or 61
+            due("1 melt of " + k, first(k, 102, 1), 1);
+            due("1 not yet", first(k, 101, 1), 0);
+            due("1 burn of " + k, first(k, 61, 2), 1);
+            due("1 not yet", first(k, 60, 2), 0);
+            due("1 loss of " + k, first(k, 50, 0), 49);
+            due("1 not yet", first(k, 49, 0), 49);
+            p.plate(2, 1, k, 9);
+            Bench.run(p, "on; hold 1;");
+            due("1 lead of " + k, p.cell(1, 0, 0), 10);
+        }
+    }
+
+    /** What a cell of a stuff is like behind one tick of a beam. */
+    private static int first(int stuff, int strength, int what) {
+        BeamPlate p = new BeamPlate();
+        p.plate(1, 1, stuff, 1);
+        p.beam(strength, true);
+        Bench.run(p, "on; hold 1;");
+        return p.cell(0, 0, what);
     }
 
     // Promise 2
@@ -144,6 +165,12 @@ public final class PromisesTest {
         }
         due("3 whole", p.cell(1, 1, 1), 0);
         due("3 not burnt", p.cell(1, 1, 2), 0);
+        p.beam(6, true);
+        Bench.run(p, "on; hold 1;");
+        due("3 before: burnt", p.cell(0, 0, 2), 1);
+        p.plate(7, 7, 0, 1);
+        due("3 anew not burnt", p.cell(0, 0, 2), 0);
+        p.beam(10, true);
         // The strength, the gas and the pitch are the works', not the plate's.
         Bench.run(p, "on; hold 1;");
         due("3 strength stays", p.heat(0), 10);
@@ -191,12 +218,16 @@ public final class PromisesTest {
         }
     }
 
-    /** A way that cuts the four cells around one. */
+    /** A way that cuts the cells around one, as far as they are on the plate. */
     private static String lone(int x, int y) {
         StringBuilder text = new StringBuilder("on;");
         int[][] around = {{-1, 0}, {1, 0}, {0, -1}, {0, 1}};
         for (int[] side : around) {
-            text.append("to ").append(x + side[0]).append(' ').append(y + side[1]).append("; hold 1;");
+            int toX = x + side[0];
+            int toY = y + side[1];
+            if (toX >= 0 && toY >= 0) {
+                text.append("to " + toX + " " + toY + "; if x=" + toX + " if y=" + toY + " hold 1;");
+            }
         }
         return text.toString();
     }
@@ -397,6 +428,7 @@ public final class PromisesTest {
         p.beam(4, true);
         due("10 hot", Bench.run(p, "on; hold 2; if hot=8 hold 1; if hot=0 hold 10; if cut=1 hold 100;"), 113);
         due("10 cut", p.cell(3, 2, 1), 1);
+        due("10 not cut", Bench.run(p, "to 0 0; if cut=0 hold 1; to 3 2; if cut=0 hold 10;"), 1);
         due("10 inner again", Bench.run(p, "again 3 begin if tick<4 hold 2; if tick=4 again 2 begin hold 5; end; end;"),
             14);
         due("10 if within if", Bench.run(p, "if x=3 if y=3 hold 1; if x=3 if y=2 hold 10; hold 100;"), 110);
@@ -505,6 +537,37 @@ public final class PromisesTest {
         due("11 cut", p.cell(0, 0, 1), 1);
         due("11 burnt for ever", p.cell(0, 0, 2), 1);
         bridges();
+        borders();
+    }
+
+    // A part of one cell is held at each side of the plate, and parts hang together by sides alone.
+    private static void borders() {
+        int[][] middles = {{0, 2}, {4, 2}, {2, 0}, {2, 4}, {0, 0}, {4, 4}, {0, 4}, {4, 0}};
+        for (int[] m : middles) {
+            BeamPlate p = still(5, 5);
+            Bench.run(p, lone(m[0], m[1]));
+            due("11 alone at the border", p.cell(m[0], m[1], 3), 1);
+            due("11 it is there", p.cell(m[0], m[1], 1), 0);
+            due("11 held", p.cell(m[0], m[1], 4), 1);
+        }
+        BeamPlate p = still(3, 3);
+        Bench.run(p, "speed 1; on; to 1 0; hold 1; go north 2;");
+        due("11 two columns", p.look(11), 2);
+        due("11 the left one", p.cell(0, 2, 3), 3);
+        due("11 the right one", p.cell(2, 0, 3), 3);
+        p = still(2, 2);
+        Bench.run(p, "on; hold 1; to 1 1; hold 1;");
+        due("11 corners do not hang together", p.look(11), 2);
+        p = still(5, 5);
+        Bench.run(p, "speed 1; on; to 0 1; hold 1; go east 4; to 0 3; hold 1; go east 4;");
+        for (int x = 0; x < 5; x++) {
+            due("11 a row seen from " + x, p.cell(x, 2, 3), 5);
+        }
+        p = still(3, 3);
+        Bench.run(p, "on;" + "to 0 0; hold 1; to 1 0; hold 1; to 2 0; hold 1; to 0 1; hold 1; to 2 1; hold 1; to 0 2; "
+            + "hold 1; to 2 2; hold 1; to 1 2; hold 1;");
+        due("11 nothing but a fallen one", p.look(8), 1);
+        due("11 no part", p.look(11), 0);
     }
 
     private static void bridges() {
@@ -692,14 +755,31 @@ public final class PromisesTest {
         order(p, 8, 0, 9, 93);
         // Of two orders that burn the same the one with fewer ticks, though its numbers are greater.
         p.plate(6, 3, 0, 1);
-        Bench.way(p, 3, "hold x".replace("x", "5") + ";");
+        Bench.way(p, 3, "hold 5;");
         Bench.way(p, 4, "if hot=0 hold 1; speed 2;");
         Bench.way(p, 2, "go east 1;");
         order(p, 16 | 4, 0, 1 + 2, 942);
+        eachOrder();
         // What is spent in a trial does not count.
         Bench.way(p, 6, "hold 9999;");
         order(p, 64 | 8, 0, 999 + 5, 936);
         due("14 not spent here", p.look(13), 0);
+    }
+
+    // Each way waits unless it comes at its own turn, which the head's x tells: one order alone takes no ticks.
+    private static void eachOrder() {
+        int[][] turns = {{0, 1, 2}, {0, 2, 1}, {1, 0, 2}, {1, 2, 0}, {2, 0, 1}, {2, 1, 0}};
+        int[] numbers = {1, 4, 7};
+        for (int[] turn : turns) {
+            BeamPlate p = still(6, 3);
+            int order = 9000;
+            for (int i = 0; i < 3; i++) {
+                Bench.way(p, numbers[i], "if x<t hold 9; if x>t hold 9; ".replace("t", Integer.toString(turn[i]))
+                    + "if x=2 to 3 0; if x=1 to 2 0; if x=0 to 1 0;");
+                order += numbers[i] * (turn[i] == 0 ? 100 : turn[i] == 1 ? 10 : 1);
+            }
+            order(p, 128 | 16 | 2, 0, 0, order);
+        }
     }
 
     private static void order(BeamPlate p, int set, int burnt, int ticks, int order) {
@@ -840,6 +920,12 @@ public final class PromisesTest {
         known(p, 2, 8, 1, 999, 0, 500);
         p.test(2, 998, false, 8);
         known(p, 2, 8, 999, 999, 0, NONE);
+        BeamPlate q = new BeamPlate();
+        q.test(3, 700, true, 1);
+        known(q, 3, 1, 1, 700, 0, 350);
+        q = new BeamPlate();
+        q.test(3, 700, false, 1);
+        known(q, 3, 1, 701, 999, 0, 850);
         p.test(2, 999, false, 9);
         known(p, 2, 9, 1000, 999, 1, NONE);
     }
@@ -894,6 +980,7 @@ public final class PromisesTest {
         }
         p.sparks();
         due("21 the longest", p.lost(256, 99), 0);
+        due("21 a hundred can't be", p.lost(256, 100), NONE);
         due("21 255 is not below 255", p.lost(255, 1), NONE);
     }
 }
