@@ -874,10 +874,10 @@ public final class BeamPlate {
             for (int y = 0; y < high; y++) {
                 int rowEnd = Math.min((y + 1) * wide, area);
                 for (int place = y * wide; place < rowEnd; place++) {
-                    if (place + 1 < rowEnd) {
+                    if (place + 1 < rowEnd && heat[place] != heat[place + 1]) {
                         leadBetween(place, place + 1, lead);
                     }
-                    if (place + wide < area) {
+                    if (place + wide < area && heat[place] != heat[place + wide]) {
                         leadBetween(place, place + wide, lead);
                     }
                 }
@@ -889,10 +889,9 @@ public final class BeamPlate {
         }
 
         private void leadBetween(int one, int other, int lead) {
-            int more = heat[one] - heat[other];
-            if (more != 0 && state[one] == THERE && state[other] == THERE) {
+            if (state[one] == THERE && state[other] == THERE) {
                 // Java's quotient goes towards 0, as the flow of heat does; the product stays below 2 to the 31.
-                int flow = more * lead / 100;
+                int flow = (heat[one] - heat[other]) * lead / 100;
                 inflow[one] -= flow;
                 inflow[other] += flow;
             }

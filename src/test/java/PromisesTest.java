@@ -384,6 +384,16 @@ public final class PromisesTest {
         fault("if x<1 if x<1 if x<1 if x<1 again 0 begin on;", 3, 28);
         fault("again 1 begin again 1 begin again 1 begin again 1 begin if", 3, 56);
         fault("again 1 begin if x<1 again 1 begin if x<1 on; if x<1 again", 3, 53);
+        // What was behind the end is no more.
+        BeamPlate p = new BeamPlate();
+        Bench.put(p, "on;off;on;");
+        p.end(5);
+        no("9 a word cut off", p.way(0));
+        due("9 its place", p.fault(1), 3);
+        Bench.put(p, "hold 123456789");
+        p.end(9);
+        no("9 a number cut off", p.way(0));
+        due("9 its place", p.fault(1), 9);
         // Of several the first by its place.
         fault("speed 0; on on;", 2, 6);
         fault("on on; speed 0;", 1, 3);
@@ -597,6 +607,21 @@ public final class PromisesTest {
         due("11 no part is held", p.look(11), 3);
         due("11 the outer one", p.cell(2, 2, 5), 2);
         due("11 the middle one", p.cell(4, 2, 5), 2);
+        int[][] left = {{4, 4, 4}, {4, 8, 3}, {8, 4, 3}, {8, 8, 3}, {4, 1, 1}, {4, 10, 1}, {8, 6, 3}, {4, 6, 4}};
+        for (int[] l : left) {
+            due("11 all but " + l[0] + ", " + l[1], allBut(l[0], l[1]).cell(l[0], l[1], 5), l[2]);
+        }
+    }
+
+    /** Of twelve by twelve cells, all but one cut, row by row. */
+    private static BeamPlate allBut(int x, int y) {
+        BeamPlate p = still(12, 12);
+        for (int row = 0; row < 12; row++) {
+            String last = row == y ? "go east " + (x - 1) + "; to " + (x + 1) + " " + y + "; hold 1; go east 12;" : "go east 12;";
+            Bench.run(p, "on; speed 1; to 0 " + row + "; hold 1; " + last);
+        }
+        due("11 one is left", p.look(6), 1);
+        return p;
     }
 
     // Promise 12
