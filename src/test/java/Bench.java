@@ -60,6 +60,48 @@ final class Bench {
         return plate.way(k);
     }
 
+    /** A plate of a stuff without lead and loss that is cut by 10 and never burns, under a beam that cuts in one tick. */
+    static BeamPlate still(int wide, int high) {
+        BeamPlate plate = new BeamPlate();
+        plate.stuff(0, 10, 0, 0, 9999);
+        plate.plate(wide, high, 0, 1);
+        plate.beam(10, true);
+        return plate;
+    }
+
+    /** All that can be seen of a plate, so that two of them can be held against one another. */
+    static String seen(BeamPlate plate, int wide, int high) {
+        StringBuilder all = new StringBuilder();
+        for (int what = 0; what <= 13; what++) {
+            all.append(plate.look(what)).append(' ');
+        }
+        for (int what = 0; what <= 3; what++) {
+            all.append(plate.heat(what)).append(' ');
+        }
+        for (int y = 0; y < high; y++) {
+            for (int x = 0; x < wide; x++) {
+                for (int what = 0; what <= 5; what++) {
+                    all.append(plate.cell(x, y, what)).append(' ');
+                }
+            }
+        }
+        return all.toString();
+    }
+
+    /** A way that cuts the cells beside one, as far as they are on a plate, under a beam that cuts in one tick. */
+    static String around(int x, int y) {
+        StringBuilder text = new StringBuilder("on;");
+        int[][] sides = {{-1, 0}, {1, 0}, {0, -1}, {0, 1}};
+        for (int[] side : sides) {
+            int toX = x + side[0];
+            int toY = y + side[1];
+            if (toX >= 0 && toY >= 0) {
+                text.append("to " + toX + " " + toY + "; if x=" + toX + " if y=" + toY + " hold 1;");
+            }
+        }
+        return text.toString();
+    }
+
     /** Lets a text run as way 7. */
     static int run(BeamPlate plate, String text) {
         way(plate, 7, text);
