@@ -456,7 +456,7 @@ public final class BeamPlate {
 
     /** Reads a text into a program from left to right, so that the fault it meets first is the first by its place. */
     private static final class Reader {
-        // A byte of a text gives less than two numbers of a program: an if of six bytes gives nine.
+        // A byte of a text gives less than two numbers of a program: an if of five bytes, if1=1, gives nine.
         static final int MOST_PROGRAM = 2 * MOST_TAPE;
         static final int CANT_STAND = 1;
         static final int WRONG_NUMBER = 2;

@@ -579,6 +579,8 @@ public final class EdgeNumbersTest {
         due("21 just below", p.lost(6, 1), 1);
         due("21 not two at the end", p.lost(5, 2), NONE);
         due("21 none below", p.lost(4, 1), NONE);
+        due("21 no bytes at all are no lost cut", p.lost(6, 0), NONE);
+        due("21 not even where none is below", p.lost(0, 0), NONE);
         due("21 the whole row", p.lost(10, 20), 0);
         due("21 more than the row has", p.lost(10, 21), NONE);
         p.feed(-1, -1, -1, -1, 0xff000000);

@@ -178,6 +178,10 @@ public final class EdgeRunsTest {
         due("10 x and y at first", Bench.run(p, "if x=0 if y=0 hold 1;"), 1);
         due("10 x and y at the end", Bench.run(p, "to 3 2; if x=3 if y=2 hold 1;"), 1);
         due("10 as it stays", Bench.run(p, "to 4 2; if x=3 if y=2 hold 1;"), 1);
+        due("10 no other step is done", Bench.run(p, "on; speed 3; to 1 1; if x+y+0-0=1+1 hold 1; if x=y-2+1 off;"), 1);
+        due("10 the beam is still on", p.look(3), 1);
+        due("10 the speed is still so", p.look(4), 3);
+        at("10 the head is still there", p, 1, 1);
         due("10 if within if", ticks("if 1=1 if 1=2 hold 1; if 1=2 if 1=1 hold 2; if 1=1 if 1=1 hold 4;"), 4);
     }
 
@@ -335,6 +339,12 @@ public final class EdgeRunsTest {
         spent("if 1=1 hold 998;", 998, 1);
         spent("if 1=1 if 1=1 hold 996;", 996, 0);
         spent("if 1=1 if 1=1 hold 997;", 997, 1);
+        spent("if 1+1+1=3 hold 997;", 997, 0);
+        spent("if 1+1+1=3 hold 998;", 998, 1);
+        spent("if 3=1+1+1 hold 997;", 997, 0);
+        spent("if 3=1+1+1 hold 998;", 998, 1);
+        spent("if 1+1+1+1<1+1 hold 1; hold 997;", 997, 0);
+        spent("if 1+1+1+1<1+1 hold 1; hold 998;", 998, 1);
         spent("hold 998; if 1=1 hold 5;", 998, 1);
         spent("hold 997; if 1=1 hold 5;", 997, 1);
         spent("hold 996; if 1=1 hold 5;", 997, 1);

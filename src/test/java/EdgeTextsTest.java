@@ -21,6 +21,7 @@ public final class EdgeTextsTest {
         leastAtOnePlace();
         wayNumbers();
         wayStays();
+        faultLeavesNothing();
         faultWhats();
         BENCH.finish();
     }
@@ -82,6 +83,10 @@ public final class EdgeTextsTest {
         fault(times(400, "1"), 1, 0);
         fault("hold " + times(395, "1"), 1, 5);
         fault("if x" + times(198, "+x"), 1, 400);
+        // As many tokens as 400 bytes may have before one of them can't stand there.
+        fault("if1" + times(198, "+1") + "+", 1, 400);
+        fault("if1" + times(198, "+1") + "=", 1, 400);
+        fault("if1" + times(198, "+1") + ";", 1, 399);
     }
 
     // "digits as many as stand together NUMBERS of 1 to 4 digits or none"
@@ -406,6 +411,22 @@ public final class EdgeTextsTest {
         p.end(7);
         BENCH.yes("8 of the tape's first bytes alone", p.way(2));
         BENCH.due("8 these", p.run(2), 1);
+    }
+
+    // A text that breaks off with all four open leaves none of them open for the next text.
+    private static void faultLeavesNothing() {
+        BeamPlate p = new BeamPlate();
+        p.plate(3, 3, 0, 1);
+        String again = "again 2 begin ";
+        String[] faulty = {times(4, again), times(4, again) + "again", times(4, "if 1=1 "), times(3, again) + "if 1=1 speed 0",
+            again, "if 1=1 " + again + "on; end", "if 1", "if 1=1 again 100"};
+        for (String text : faulty) {
+            BENCH.no("8 " + text, Bench.way(p, 1, text));
+            BENCH.due("8 four agains behind " + text, Bench.run(p, times(4, again) + "hold 1;" + times(4, "end;") + "hold 5;"), 21);
+            BENCH.no("8 " + text, Bench.way(p, 1, text));
+            BENCH.due("8 four ifs behind " + text, Bench.run(p, times(4, "if 1=1 ") + "hold 1; if 1=2 hold 7; hold 5;"), 6);
+        }
+        BENCH.due("8 nothing of them came", p.run(1), 0);
     }
 
     // Promise 9: "Of the latest way(): what 0 the FAULT (0 without one), 1 its place (NONE). NONE for another what."

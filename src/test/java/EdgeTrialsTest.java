@@ -15,10 +15,12 @@ public final class EdgeTrialsTest {
         orderFromThePlateAsItIs();
         orderOfSpentRuns();
         orderLeavesNothing();
+        trialsOfEachStuff();
         speedRanges();
         speedToEachBorder();
         speedLeastAndGreatest();
         speedNoneIsThere();
+        speedOfEachCell();
         speedFromThePlateAsItIs();
         speedLeavesNothing();
         BENCH.finish();
@@ -201,6 +203,26 @@ public final class EdgeTrialsTest {
         BENCH.no("14 as it would be", Bench.seen(p, 5, 5).equals(before));
     }
 
+    // "plates like this one": of its stuff, and as thick
+    private static void trialsOfEachStuff() {
+        for (int stuff = 0; stuff < 4; stuff++) {
+            BeamPlate p = new BeamPlate();
+            for (int k = 0; k < 4; k++) {
+                p.stuff(k, 10 * (k + 1), 0, 0, 30 * (k + 1));
+            }
+            p.beam(10, true);
+            Bench.way(p, 0, "on; speed " + (3 * (stuff + 1) - 1) + "; go east 1;");
+            Bench.way(p, 1, "on; speed " + (3 * (stuff + 1)) + "; go east 1;");
+            for (int thick = 1; thick <= 5; thick++) {
+                p.plate(3, 2, stuff, thick);
+                int takes = (stuff + 1) * thick;
+                due("15 of stuff " + stuff + " thick " + thick, p.speed(0, 1), takes <= 20 ? takes : NONE);
+                due("14 not burnt yet, stuff " + stuff + " thick " + thick, p.order(1, 0), 0);
+                due("14 burnt or cut, stuff " + stuff + " thick " + thick, p.order(2, 0), thick > 3 ? 1 : 0);
+            }
+        }
+    }
+
     // Promise 15: "n CELLS (1 .. 15) to a side"; "side 0 east, 1 north, 2 west, 3 south"; "NONE if ... one can't be, or no PLATE"
     private static void speedRanges() {
         BeamPlate none = new BeamPlate();
@@ -298,6 +320,27 @@ public final class EdgeTrialsTest {
         p.plate(4, 1, 0, 1);
         p.beam(10, true);
         due("15 with lead", p.speed(0, 1), 2);
+    }
+
+    // Each of the n cells has to be gone, to each side: the first, the last and one between.
+    private static void speedOfEachCell() {
+        int[][] steps = {{1, 0}, {0, 1}, {-1, 0}, {0, -1}};
+        for (int side = 0; side < 4; side++) {
+            for (int gone = 1; gone <= 7; gone++) {
+                BeamPlate p = Bench.still(9, 9);
+                for (int i = 1; i <= 3; i++) {
+                    if ((gone >> (i - 1) & 1) == 1) {
+                        Bench.run(p, "to " + (4 + i * steps[side][0]) + " " + (4 + i * steps[side][1]) + "; on; hold 1; off;");
+                    }
+                }
+                Bench.run(p, "to 4 4;");
+                p.beam(1, true);
+                for (int n = 1; n <= 3; n++) {
+                    boolean all = (gone & (1 << n) - 1) == (1 << n) - 1;
+                    due("15 gone " + gone + " of " + n + " to " + SIDES[side], p.speed(side, n), all ? 1 : 10);
+                }
+            }
+        }
     }
 
     private static void speedFromThePlateAsItIs() {

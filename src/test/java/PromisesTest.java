@@ -211,25 +211,11 @@ public final class PromisesTest {
                 if (n > 1) {
                     p.pitch(n);
                 }
-                Bench.run(p, lone(x, 1));
+                Bench.run(p, Bench.around(x, 1));
                 int slats = n == 1 ? 4 : n;
                 due("5 pitch " + n + " x " + x, p.cell(x, 1, 1), x % slats == 0 ? 0 : 2);
             }
         }
-    }
-
-    /** A way that cuts the cells around one, as far as they are on the plate. */
-    private static String lone(int x, int y) {
-        StringBuilder text = new StringBuilder("on;");
-        int[][] around = {{-1, 0}, {1, 0}, {0, -1}, {0, 1}};
-        for (int[] side : around) {
-            int toX = x + side[0];
-            int toY = y + side[1];
-            if (toX >= 0 && toY >= 0) {
-                text.append("to " + toX + " " + toY + "; if x=" + toX + " if y=" + toY + " hold 1;");
-            }
-        }
-        return text.toString();
     }
 
     // Promise 6
@@ -533,7 +519,7 @@ public final class PromisesTest {
         due("11 tipped, then cut", p.cell(2, 2, 1), 1);
         due("11 the rest lies still on its slat, but is tipped for ever", p.cell(3, 2, 1), 3);
         p = still(5, 5);
-        Bench.run(p, lone(2, 2));
+        Bench.run(p, Bench.around(2, 2));
         int[] fallen = {0, 2, 0, 0, 0, NONE};
         for (int what = 0; what <= 5; what++) {
             due("11 fallen " + what, p.cell(2, 2, what), fallen[what]);
@@ -555,7 +541,7 @@ public final class PromisesTest {
         int[][] middles = {{0, 2}, {4, 2}, {2, 0}, {2, 4}, {0, 0}, {4, 4}, {0, 4}, {4, 0}};
         for (int[] m : middles) {
             BeamPlate p = still(5, 5);
-            Bench.run(p, lone(m[0], m[1]));
+            Bench.run(p, Bench.around(m[0], m[1]));
             due("11 alone at the border", p.cell(m[0], m[1], 3), 1);
             due("11 it is there", p.cell(m[0], m[1], 1), 0);
             due("11 held", p.cell(m[0], m[1], 4), 1);
@@ -722,7 +708,7 @@ public final class PromisesTest {
         p.beam(4, true);
         Bench.run(p, "to 2 2; on; hold 2;");
         p.beam(10, true);
-        Bench.run(p, lone(2, 2));
+        Bench.run(p, Bench.around(2, 2));
         due("13 fallen", p.cell(2, 2, 1), 2);
         due("13 carried with it", p.heat(3), 48);
         due("13 nothing left", p.heat(1), 0);
