@@ -679,5 +679,12 @@ public final class EdgeTicksTest {
         for (int what = 0; what <= 3; what++) {
             due("13 a new plate has none", p.heat(what), 0);
         }
+        // The first and the last cell of the largest plate count too.
+        p = of(999, 0, 0, 9999, 16, 12);
+        due("13 of the largest", p.heat(1), 0);
+        warm(p, 15, 11, 9);
+        due("13 its last cell", p.heat(1), 9);
+        warm(p, 0, 0, 20);
+        due("13 its first cell", p.heat(1), 29);
     }
 }
